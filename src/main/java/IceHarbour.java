@@ -85,8 +85,8 @@ public final class IceHarbour {
         needHarbour(harbour);
         needIndex(good, GOODS);
         needNumber(price, 0, MOST_PRICE);
-        int before = river.prices[cell(harbour, good)];
-        river.prices[cell(harbour, good)] = price;
+        int before = river.prices[cellOf(harbour, good)];
+        river.prices[cellOf(harbour, good)] = price;
         return before;
     }
 
@@ -120,8 +120,8 @@ public final class IceHarbour {
         needIndex(good, GOODS);
         needNumber(many, 1, MOST_BROUGHT);
         Merchant bringer = world.merchants[merchant];
-        bringer.stocks[cell(harbour, good)] += many;
-        return bringer.stocks[cell(harbour, good)];
+        bringer.stocks[cellOf(harbour, good)] += many;
+        return bringer.stocks[cellOf(harbour, good)];
     }
 
     public int sell(int merchant, int harbour, int good, int many)
@@ -131,9 +131,9 @@ public final class IceHarbour {
         needIndex(good, GOODS);
         needNumber(many, 1, Integer.MAX_VALUE);
         Merchant seller = world.merchants[merchant];
-        needEnough(seller.stocks[cell(harbour, good)], many);
-        seller.stocks[cell(harbour, good)] -= many;
-        seller.coins += many * river.prices[cell(harbour, good)];
+        needEnough(seller.stocks[cellOf(harbour, good)], many);
+        seller.stocks[cellOf(harbour, good)] -= many;
+        seller.coins += many * river.prices[cellOf(harbour, good)];
         return seller.coins;
     }
 
@@ -141,7 +141,7 @@ public final class IceHarbour {
         needMerchant(merchant);
         needHarbour(harbour);
         needIndex(good, GOODS);
-        return world.merchants[merchant].stocks[cell(harbour, good)];
+        return world.merchants[merchant].stocks[cellOf(harbour, good)];
     }
 
     public int merchant(int merchant, int what) throws IndexOutOfBoundsException {
@@ -173,7 +173,7 @@ public final class IceHarbour {
         Boat loaded = world.boats[boat];
         needInHarbour(loaded);
         Merchant owner = world.merchants[loaded.owner];
-        int cell = cell(loaded.harbour, good);
+        int cell = cellOf(loaded.harbour, good);
         needEnough(many > 0 ? owner.stocks[cell] : loaded.cargo[good], Math.abs(many));
         needEnough(loaded.room - loaded.allCargo(), many);
         owner.stocks[cell] -= many;
@@ -234,8 +234,8 @@ public final class IceHarbour {
         needNumber(many, 1, Integer.MAX_VALUE);
         needNumber(day, river.day, Integer.MAX_VALUE);
         needRoomForOneMore(world.debtCount, MOST_DEBTS);
-        needEnough(world.merchants[from].stocks[cell(harbour, good)], many);
-        world.hand(from, to, cell(harbour, good), many);
+        needEnough(world.merchants[from].stocks[cellOf(harbour, good)], many);
+        world.hand(from, to, cellOf(harbour, good), many);
         int number = world.debtCount;
         world.debts[number].open(from, to, harbour, good, many + many / 10, day);
         world.debtCount = number + 1;
@@ -249,7 +249,7 @@ public final class IceHarbour {
         if (repaid.state != OPEN) {
             throw new IllegalStateException("the debt is not open");
         }
-        int cell = cell(harbour, repaid.good);
+        int cell = cellOf(harbour, repaid.good);
         needEnough(world.merchants[repaid.debtor].stocks[cell], repaid.many);
         world.hand(repaid.debtor, repaid.lender, cell, repaid.many);
         repaid.state = PAID;
@@ -434,7 +434,7 @@ public final class IceHarbour {
             case 1: return world.boatsLying(harbour, IN_BERTH);
             case 2: return world.boatsLying(harbour, IN_BERTH) + world.boatsLying(harbour, AT_ANCHOR);
             case 3: return river.iceAtHarbour(harbour);
-            default: return river.prices[cell(harbour, what - FIRST_PRICE_FACT)];
+            default: return river.prices[cellOf(harbour, what - FIRST_PRICE_FACT)];
         }
     }
 
@@ -590,7 +590,7 @@ public final class IceHarbour {
     // ---- small sums
 
     /** Where a good at a harbour stands in the rows that hold all goods of all harbours. */
-    private static int cell(int harbour, int good) {
+    private static int cellOf(int harbour, int good) {
         return harbour * GOODS + good;
     }
 
@@ -622,7 +622,9 @@ public final class IceHarbour {
         final int[] prices = new int[MOST_HARBOURS * GOODS];
 
         River() {
-            Arrays.fill(warm, WARM_AT_FIRST);
+            for (int d = 0; d < TABLE_DAYS; d++) {
+                warm[d] = WARM_AT_FIRST;
+            }
         }
 
         void copyFrom(River other) {
@@ -753,7 +755,6 @@ public final class IceHarbour {
         void loseHull() {
             hull--;
             if (hull <= 0) {
-                hull = 0;
                 place = SUNK;
                 harbour = NOWHERE;
                 daysToGo = 0;
@@ -979,7 +980,7 @@ public final class IceHarbour {
                 return;
             }
             Merchant debtor = merchants[debt.debtor];
-            int cell = cell(debt.harbour, debt.good);
+            int cell = cellOf(debt.harbour, debt.good);
             int cost = debt.many * river.prices[cell];
             if (debtor.stocks[cell] >= debt.many) {
                 hand(debt.debtor, debt.lender, cell, debt.many);

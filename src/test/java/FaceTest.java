@@ -32,6 +32,9 @@ public final class FaceTest {
             Check.holds(inside + " is static and not public",
                 Modifier.isStatic(m) && !Modifier.isPublic(m) && !Modifier.isProtected(m));
             fields(inside);
+            for (Method own : inside.getDeclaredMethods()) {
+                Check.holds(own + " bears no public name", !String.join(" ", FACE).contains(" " + own.getName() + "("));
+            }
         }
         Check.holds("at most twelve classes", c.getDeclaredClasses().length + 1 <= 12);
         Check.end();
