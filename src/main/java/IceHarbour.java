@@ -129,7 +129,7 @@ public final class IceHarbour {
         needMerchant(merchant);
         needHarbour(harbour);
         needIndex(good, GOODS);
-        needNumber(many, 1, Integer.MAX_VALUE);
+        needAtLeast(many, 1);
         Merchant seller = world.merchants[merchant];
         needEnough(seller.stocks[cellOf(harbour, good)], many);
         seller.stocks[cellOf(harbour, good)] -= many;
@@ -231,8 +231,8 @@ public final class IceHarbour {
         if (from == to) {
             throw new IllegalArgumentException("nobody lends to himself");
         }
-        needNumber(many, 1, Integer.MAX_VALUE);
-        needNumber(day, river.day, Integer.MAX_VALUE);
+        needAtLeast(many, 1);
+        needAtLeast(day, river.day);
         needRoomForOneMore(world.debtCount, MOST_DEBTS);
         needEnough(world.merchants[from].stocks[cellOf(harbour, good)], many);
         world.hand(from, to, cellOf(harbour, good), many);
@@ -374,6 +374,12 @@ public final class IceHarbour {
     private static void needNumber(int number, int least, int most) {
         if (number < least || number > most) {
             throw new IllegalArgumentException("the number is too small or too great");
+        }
+    }
+
+    private static void needAtLeast(int number, int least) {
+        if (number < least) {
+            throw new IllegalArgumentException("the number is too small");
         }
     }
 

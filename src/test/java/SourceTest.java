@@ -9,7 +9,7 @@ import java.util.regex.Pattern;
 /** What of ../shared/LANGUAGE.md can be seen in the text of the class. Runs in the project's directory. */
 public final class SourceTest {
     private static final Set<String> LIBRARY = Set.of(
-        "Arrays.fill", "System.arraycopy", "Math.min", "Math.max", "Math.abs", "Math.floorMod", "Integer.MAX_VALUE");
+        "Arrays.fill", "System.arraycopy", "Math.min", "Math.max", "Math.abs", "Math.floorMod");
     private static final String[] FORBIDDEN = {
         "->", "::", "catch", "finally", "synchronized", "assert", "package", "instanceof", "protected",
         "hashCode", "equals", "toString", "Random", "System.out", "nanoTime", "currentTimeMillis", "NaN",
