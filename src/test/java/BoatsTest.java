@@ -3,7 +3,7 @@ public final class BoatsTest {
     public static void main(String[] args) {
         build();
         load();
-        loadRefuses();
+        loadBeforeItSetsOut();
         send();
         sendFromALeg();
         berth();
@@ -17,21 +17,11 @@ public final class BoatsTest {
         IceHarbour x = Rivers.three();
         x.addMerchant(0);
         x.addMerchant(0);
-        Check.outOfBounds("build(2, 0, 1)", x, () -> x.build(2, 0, 1));
-        Check.outOfBounds("build(-1, 0, 1)", x, () -> x.build(-1, 0, 1));
-        Check.outOfBounds("build(0, 3, 1)", x, () -> x.build(0, 3, 1));
-        Check.outOfBounds("build(0, -1, 1)", x, () -> x.build(0, -1, 1));
-        Check.outOfBounds("build(0, 3, 0)", x, () -> x.build(0, 3, 0));
-        Check.badArgument("build(0, 0, 0)", x, () -> x.build(0, 0, 0));
-        Check.badArgument("build(0, 0, 61)", x, () -> x.build(0, 0, 61));
         Check.due("build(1, 2, 60)", x.build(1, 2, 60), 0);
         expect(x, 0, 1, 20, 60, 0, 2, 2, 0, 0, 0, 0, 0, 0);
         for (int k = 1; k < 10; k++) {
             Check.due("build(0, 0, 1)", x.build(0, 0, 1), k);
         }
-        Check.badState("an eleventh boat", x, () -> x.build(0, 0, 1));
-        Check.badArgument("an eleventh one with wrong room", x, () -> x.build(0, 0, 61));
-        Check.outOfBounds("an eleventh one of nobody", x, () -> x.build(2, 0, 1));
     }
 
     private static void load() {
@@ -69,29 +59,17 @@ public final class BoatsTest {
         Check.badState("what is at the other harbour", x, () -> x.load(0, 1, 59));
     }
 
-    private static void loadRefuses() {
+    private static void loadBeforeItSetsOut() {
         IceHarbour x = Rivers.three();
         x.addMerchant(0);
         x.build(0, 0, 60);
         x.bring(0, 0, 0, 100);
-        Check.outOfBounds("load(1, 0, 1)", x, () -> x.load(1, 0, 1));
-        Check.outOfBounds("load(-1, 0, 1)", x, () -> x.load(-1, 0, 1));
-        Check.outOfBounds("load(0, 4, 1)", x, () -> x.load(0, 4, 1));
-        Check.outOfBounds("load(0, -1, 1)", x, () -> x.load(0, -1, 1));
-        Check.outOfBounds("load(0, 4, 0)", x, () -> x.load(0, 4, 0));
-        Check.badArgument("load(0, 0, 0)", x, () -> x.load(0, 0, 0));
-        Check.badArgument("load(0, 0, 61)", x, () -> x.load(0, 0, 61));
-        Check.badArgument("load(0, 0, -61)", x, () -> x.load(0, 0, -61));
-        Check.badArgument("load(0, 0, min)", x, () -> x.load(0, 0, Integer.MIN_VALUE));
-        Check.due("load(0, 0, 60)", x.load(0, 0, 60), 60);
-        Check.due("load(0, 0, -60)", x.load(0, 0, -60), 0);
         x.load(0, 0, 10);
         x.send(0, 1);
         Check.due("loads before it has set out", x.load(0, 0, 1), 11);
         x.pass(1);
         Check.badState("loads on a leg", x, () -> x.load(0, 0, 1));
         Check.badState("unloads on a leg", x, () -> x.load(0, 0, -1));
-        Check.badArgument("loads nothing on a leg", x, () -> x.load(0, 0, 0));
     }
 
     private static void send() {
@@ -110,15 +88,6 @@ public final class BoatsTest {
         Check.due("send(2, 2)", x.send(2, 2), 2);
         Check.due("its goal then", x.boat(2, 5), 2);
         Check.due("it is where it was", x.boat(2, 4), 1);
-        Check.outOfBounds("send(3, 0)", x, () -> x.send(3, 0));
-        Check.outOfBounds("send(-1, 0)", x, () -> x.send(-1, 0));
-        Check.outOfBounds("send(0, 3)", x, () -> x.send(0, 3));
-        Check.outOfBounds("send(0, -1)", x, () -> x.send(0, -1));
-        Rivers.warm(x, 0, 39, -9);
-        x.pass(40);
-        Check.due("the boat 0 is sunk", x.boat(0, 3), 3);
-        Check.badState("sends a sunk one", x, () -> x.send(0, 0));
-        Check.outOfBounds("sends a sunk one to no harbour", x, () -> x.send(0, 3));
     }
 
     private static void sendFromALeg() {
@@ -168,8 +137,6 @@ public final class BoatsTest {
         Check.due("one that has set out has left its berth", x.berth(3, true), 0);
         Check.badState("into a berth on a leg", x, () -> x.berth(1, true));
         Check.badState("to anchor on a leg", x, () -> x.berth(1, false));
-        Check.outOfBounds("berth(5, true)", x, () -> x.berth(5, true));
-        Check.outOfBounds("berth(-1, false)", x, () -> x.berth(-1, false));
     }
 
     private static void mend() {
@@ -196,8 +163,6 @@ public final class BoatsTest {
         Check.due("it pays no more than is missing", x.merchant(1, 0), 79);
         Check.due("mend(1) when it is whole", x.mend(1), 20);
         Check.due("for nothing", x.merchant(1, 0), 79);
-        Check.outOfBounds("mend(3)", x, () -> x.mend(3));
-        Check.outOfBounds("mend(-1)", x, () -> x.mend(-1));
         Rivers.warm(x, 10, 12, 9);
         x.send(1, 1);
         x.pass(1);
@@ -226,17 +191,14 @@ public final class BoatsTest {
         x.send(0, 0);
         x.pass(1);
         expect(x, 0, 1, 20, 33, 2, 1, 0, 3, 14, 2, 3, 4, 5);
-        Check.outOfBounds("boat(1, 0)", x, () -> x.boat(1, 0));
-        Check.outOfBounds("boat(-1, 0)", x, () -> x.boat(-1, 0));
-        Check.outOfBounds("boat(0, 12)", x, () -> x.boat(0, 12));
-        Check.outOfBounds("boat(0, -1)", x, () -> x.boat(0, -1));
     }
 
     private static void sunkBoat() {
         IceHarbour x = Rivers.three();
         x.addMerchant(100);
+        x.addMerchant(100);
         x.build(0, 0, 33);
-        x.build(0, 1, 12);
+        x.build(1, 1, 12);
         x.bring(0, 0, 2, 9);
         x.load(0, 2, 9);
         x.send(0, 2);
@@ -247,7 +209,8 @@ public final class BoatsTest {
         expect(x, 0, 0, 1, 33, 2, 1, 2, 1, 9, 0, 0, 9, 0);
         Check.due("pass(1) sinks both", x.pass(1), 2);
         expect(x, 0, 0, 0, 33, 3, -1, 2, 0, 0, 0, 0, 0, 0);
-        expect(x, 1, 0, 0, 12, 3, -1, 1, 0, 0, 0, 0, 0, 0);
+        expect(x, 1, 1, 0, 12, 3, -1, 1, 0, 0, 0, 0, 0, 0);
+        Check.badState("sends a sunk one", x, () -> x.send(0, 0));
         Check.badState("loads on a sunk one", x, () -> x.load(0, 2, 1));
         Check.badState("unloads a sunk one", x, () -> x.load(0, 2, -1));
         Check.badState("berths a sunk one", x, () -> x.berth(0, true));

@@ -31,28 +31,16 @@ final class Check {
         }
     }
 
-    static void outOfBounds(String what, IceHarbour x, Call call) {
-        refused(what, x, call, IndexOutOfBoundsException.class);
-    }
-
-    static void badArgument(String what, IceHarbour x, Call call) {
-        refused(what, x, call, IllegalArgumentException.class);
-    }
-
+    /** The call throws an IllegalStateException and changes nothing; Refusals is for whole tables of such calls. */
     static void badState(String what, IceHarbour x, Call call) {
-        refused(what, x, call, IllegalStateException.class);
-    }
-
-    /** The call throws just this class (the machine's own exceptions are below it) and changes nothing. */
-    private static void refused(String what, IceHarbour x, Call call, Class<?> due) {
         asked++;
         long before = x.digest();
         try {
             call.run();
-            wrong(what + " threw nothing, due is " + due.getName());
+            wrong(what + " threw nothing, due is IllegalStateException");
         } catch (RuntimeException e) {
-            if (e.getClass() != due) {
-                wrong(what + " threw " + e + ", due is " + due.getName());
+            if (e.getClass() != IllegalStateException.class) {
+                wrong(what + " threw " + e + ", due is IllegalStateException");
             }
         }
         if (x.digest() != before) {

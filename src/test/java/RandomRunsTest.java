@@ -4,7 +4,7 @@ import java.util.Arrays;
 
 /** All promises: long mixed runs with wild arguments, in which IceHarbour must do as Model does. */
 public final class RandomRunsTest {
-    private static final int RUNS = 150;
+    private static final int RUNS = 200;
     private static final int CALLS = 512;
     private static final int TABLE = 40;
     private static final int SET_UP = 60;
@@ -42,7 +42,10 @@ public final class RandomRunsTest {
         Model model = new Model();
         StringBuilder past = new StringBuilder();
         int mildDays = 10 + below(28);
-        for (int k = 0; k < CALLS; k++) {
+        // An object is used for at most 512 calls: in one run of two, half of them look whether the state is right.
+        boolean looks = run % 2 == 0;
+        int calls = looks ? CALLS / 2 : CALLS;
+        for (int k = 0; k < calls; k++) {
             String[] call = (k < SET_UP ? setUp(k) : drawCall()).split(" ");
             Object[] arguments = drawArguments(call, model, mildDays, k >= SET_UP);
             if (k < TABLE) {
@@ -54,7 +57,7 @@ public final class RandomRunsTest {
             past.append(shown).append(' ');
             Check.holds("run " + run + ", call " + k + ": " + shown + " answered " + got + ", due is " + due
                 + ": this", got.equals(due));
-            if (real.digest() != model.digest()) {
+            if (looks && real.digest() != model.digest()) {
                 Check.holds("run " + run + ": the state behind " + past, false);
                 return;
             }
