@@ -8,15 +8,35 @@ import java.util.TreeSet;
 
 /** The public face, and what of LANGUAGE.md can be seen from the compiled class. */
 public final class FaceTest {
+    /** The exceptions without the end of their names, "Exception". */
     private static final String[] FACE = {
-        "int setWarm(int, int)", "int addHarbour(int, int)", "int setPrice(int, int, int)",
-        "int harbour(int, int)", "int leg(int, int)", "int addMerchant(int)",
-        "int bring(int, int, int, int)", "int sell(int, int, int, int)", "int stock(int, int, int)",
-        "int merchant(int, int)", "int build(int, int, int)", "int load(int, int, int)", "int send(int, int)",
-        "int berth(int, boolean)", "int mend(int)", "int boat(int, int)",
-        "int lend(int, int, int, int, int, int)", "int repay(int, int)", "int debt(int, int)", "int pass(int)",
-        "int count(int)", "int opens(int)", "int arrives(int)", "int latest(int, int)", "int advise(int, int)",
-        "double mean()", "long digest()",
+        "int setWarm(int, int) throws IndexOutOfBounds, IllegalArgument",
+        "int addHarbour(int, int) throws IllegalArgument, IllegalState",
+        "int setPrice(int, int, int) throws IndexOutOfBounds, IllegalArgument",
+        "int harbour(int, int) throws IndexOutOfBounds",
+        "int leg(int, int) throws IndexOutOfBounds",
+        "int addMerchant(int) throws IllegalArgument, IllegalState",
+        "int bring(int, int, int, int) throws IndexOutOfBounds, IllegalArgument",
+        "int sell(int, int, int, int) throws IndexOutOfBounds, IllegalArgument, IllegalState",
+        "int stock(int, int, int) throws IndexOutOfBounds",
+        "int merchant(int, int) throws IndexOutOfBounds",
+        "int build(int, int, int) throws IndexOutOfBounds, IllegalArgument, IllegalState",
+        "int load(int, int, int) throws IndexOutOfBounds, IllegalArgument, IllegalState",
+        "int send(int, int) throws IndexOutOfBounds, IllegalState",
+        "int berth(int, boolean) throws IndexOutOfBounds, IllegalState",
+        "int mend(int) throws IndexOutOfBounds, IllegalState",
+        "int boat(int, int) throws IndexOutOfBounds",
+        "int lend(int, int, int, int, int, int) throws IndexOutOfBounds, IllegalArgument, IllegalState",
+        "int repay(int, int) throws IndexOutOfBounds, IllegalState",
+        "int debt(int, int) throws IndexOutOfBounds",
+        "int pass(int) throws IllegalArgument",
+        "int count(int) throws IndexOutOfBounds",
+        "int opens(int) throws IndexOutOfBounds",
+        "int arrives(int) throws IndexOutOfBounds",
+        "int latest(int, int) throws IndexOutOfBounds",
+        "int advise(int, int) throws IndexOutOfBounds, IllegalArgument",
+        "double mean()",
+        "long digest()",
     };
 
     public static void main(String[] args) {
@@ -50,9 +70,8 @@ public final class FaceTest {
                 privateNames.add(m.getName());
                 continue;
             }
-            String parameters = Arrays.toString(m.getParameterTypes());
-            found.add(m.getReturnType() + " " + m.getName() + "("
-                + parameters.substring(1, parameters.length() - 1) + ")");
+            found.add(m.getReturnType() + " " + m.getName() + "(" + namesOf(m.getParameterTypes()) + ")"
+                + (m.getExceptionTypes().length == 0 ? "" : " throws " + namesOf(m.getExceptionTypes())));
             publicNames.add(m.getName());
             Check.holds(m + " is public and not static",
                 Modifier.isPublic(m.getModifiers()) && !Modifier.isStatic(m.getModifiers()));
@@ -60,6 +79,14 @@ public final class FaceTest {
         Check.holds("the methods " + found + " are those of the document", found.equals(face));
         privateNames.retainAll(publicNames);
         Check.holds("no private method bears a public one's name: " + privateNames, privateNames.isEmpty());
+    }
+
+    private static String namesOf(Class<?>[] types) {
+        StringBuilder names = new StringBuilder();
+        for (Class<?> type : types) {
+            names.append(names.length() == 0 ? "" : ", ").append(type.getSimpleName().replace("Exception", ""));
+        }
+        return names.toString();
     }
 
     private static void fields(Class<?> c) {
